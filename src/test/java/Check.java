@@ -5,21 +5,41 @@ final class Check {
     static final Class<?> STATE = IllegalStateException.class;
 
     private static int wrong = 0;
+    private static int made = 0;
+    private static String subject = "";
 
     private Check() {
     }
 
+    /** What the next checks are about; it is printed in front of each wrong answer. */
+    static void about(String text) {
+        subject = text + ": ";
+    }
+
+    static int count() {
+        return made;
+    }
+
+    static void fail(String text) {
+        wrong++;
+        System.out.println(subject + text);
+    }
+
     static void due(String what, long got, long want) {
+        made++;
         if (got != want) {
-            wrong++;
-            System.out.println(what + " answered " + got + ", due is " + want);
+            fail(what + " answered " + got + ", due is " + want);
         }
     }
 
+    static void due(String what, boolean got, boolean want) {
+        due(what, got ? 1 : 0, want ? 1 : 0);
+    }
+
     static void due(String what, String got, String want) {
+        made++;
         if (!got.equals(want)) {
-            wrong++;
-            System.out.println(what + " answered " + got + ", due is " + want);
+            fail(what + " answered " + got + ", due is " + want);
         }
     }
 
