@@ -7,13 +7,14 @@ import java.util.LinkedHashMap;
 import java.util.List;
 import java.util.Map;
 
-/** The sentences of the document by their headings, and which of them a test has named. */
+/** The sentences of the document by their headings, the forms of its calls, and which sentences a test has named. */
 final class Document {
     private static final Path PLACE = Path.of("..", "shared", "DOC.md");
 
     private final boolean isThere = Files.exists(PLACE);
     private final Map<String, List<String>> unnamed = new LinkedHashMap<>();
     private final Map<String, List<String>> all = new LinkedHashMap<>();
+    private final Map<String, String> forms = new LinkedHashMap<>();
 
     /** Where the document is not there, the answers are tested all the same, but no sentence is looked up. */
     Document() {
@@ -43,13 +44,41 @@ final class Document {
     }
 
     private void add(String heading, String line) {
-        String text = line.startsWith("- ") ? line.substring(2) : line.replaceFirst("^`.*?`: ", "");
-        for (String sentence : text.split("(?<=\\.)\\s+")) {
+        String form = line.startsWith("`") ? line.replaceFirst("^`(.*?)`: .*", "$1") : "";
+        if (!form.isEmpty()) {
+            forms.put(heading, form);
+        }
+        for (String sentence : sentencesIn(form.isEmpty() ? line : line.substring(form.length() + 4))) {
             all.computeIfAbsent(heading, key -> new ArrayList<>()).add(sentence);
             if (isToBeNamed(heading, sentence)) {
                 unnamed.computeIfAbsent(heading, key -> new ArrayList<>()).add(sentence);
             }
         }
+    }
+
+    static String[] sentencesIn(String line) {
+        String text = line.startsWith("- ") ? line.substring(2) : line;
+        return text.split("(?<=\\.)\\s+");
+    }
+
+    boolean isThere() {
+        return isThere;
+    }
+
+    /** The headings of the promises, without their titles: "Promise 2". */
+    Iterable<String> promises() {
+        return forms.keySet();
+    }
+
+    /** A call as the promise writes it, with its arguments and exceptions. */
+    String formOf(String promise) {
+        return forms.getOrDefault(promise, "");
+    }
+
+    List<String> sentencesOf(String heading) {
+        List<String> sentences = new ArrayList<>(all.getOrDefault(heading, List.of()));
+        sentences.removeIf(String::isEmpty);
+        return sentences;
     }
 
     /** Titles of a word or two, the overview of the terms and the lines about the interface have nothing to test. */
